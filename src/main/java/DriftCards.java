@@ -10,7 +10,7 @@ public final class DriftCards {
     private static final int WIDE = 10, HIGH = 6, CELLS = WIDE * HIGH;
     private static final int WATER = 0, SHORE = 1, LAND = 2;
     private static final int IS = 0, REGION = 1, SAND = 2, WALKED = 3, ICE = 4, MARKS = 5;
-    private static final int[] MOST_OF_MARK = {LAND, 2, 16, 16, 4095};
+    private static final int[] MOST_OF_MARK = {2, 2, 16, 16, 4095};
     private static final int REGIONS = 3, YEAR = 12, ROWS = 48, STRONGEST = 3;
     private static final int BOTTLE = 1, WEIGHTED = 2, SAIL = 3;
     private static final int MOST_CASTS = 5, MOST_CARDS = 1000, LAST_NUMBER = 9999, CASTERS = 4;
@@ -44,8 +44,8 @@ public final class DriftCards {
         finds = new Finds();
         drift = new Drift(sea);
         otherDrift = new Drift(sea);
-        landings = new Landings(sea, casts, names, drift);
-        reading = new Reading(casts, finds, landings);
+        landings = new Landings(sea, casts, drift);
+        reading = new Reading(casts, names, finds, landings);
         fitting = new Fitting(sea, casts, names, finds, landings, reading, drift);
         tape = new Tape();
         prizes = new Prizes();
@@ -193,9 +193,6 @@ public final class DriftCards {
     // ---- finds
 
     public int name(int x, int y, int tongue) {
-        if (x < 0 || y < 0) {
-            return NONE;
-        }
         int x0 = x / 100;
         int x1 = x % 100;
         int y0 = y / 100;
@@ -337,6 +334,7 @@ public final class DriftCards {
     }
 
     public long misses() {
+        landings.refresh();
         fitting.countGot();
         int told = fitting.shiftsTold();
         fitting.refreshOne(told);
@@ -915,15 +913,13 @@ public final class DriftCards {
     private static final class Landings {
         private final Sea sea;
         private final Casts casts;
-        private final Names names;
         private final Drift drift;
-        private final int[][] found = new int[MOST_CASTS][DRIFT_MONTHS * CELLS];
+        final int[][] found = new int[MOST_CASTS][DRIFT_MONTHS * CELLS];
         private int keptAt = 0;
 
-        Landings(Sea aSea, Casts someCasts, Names someNames, Drift aDrift) {
+        Landings(Sea aSea, Casts someCasts, Drift aDrift) {
             sea = aSea;
             casts = someCasts;
-            names = someNames;
             drift = aDrift;
         }
 
@@ -938,22 +934,20 @@ public final class DriftCards {
             }
             keptAt = sea.changes;
         }
-
-        int foundOf(int c, int n, int from, int to) {
-            return names.foundWithin(found[c], n, from - casts.month[c], to - casts.month[c]);
-        }
     }
 
     /** Finds read against casts; landings are refreshed before it is asked. */
     private static final class Reading {
         private final Casts casts;
+        private final Names names;
         private final Finds finds;
         private final Landings landings;
         /** How many cards of a cast a find can be: neither ever changes, so it is counted once. */
         private final int[][] cardsThatFit = new int[MOST_FINDS][MOST_CASTS];
 
-        Reading(Casts someCasts, Finds someFinds, Landings someLandings) {
+        Reading(Casts someCasts, Names someNames, Finds someFinds, Landings someLandings) {
             casts = someCasts;
+            names = someNames;
             finds = someFinds;
             landings = someLandings;
         }
@@ -1003,7 +997,8 @@ public final class DriftCards {
             if (cardsThatFit[f][c] == 0) {
                 return 0;
             }
-            return landings.foundOf(c, finds.name[f], finds.from[f], finds.to[f]);
+            int cast = casts.month[c];
+            return names.foundWithin(landings.found[c], finds.name[f], finds.from[f] - cast, finds.to[f] - cast);
         }
 
         int bestOf(int f) {
@@ -1080,6 +1075,7 @@ public final class DriftCards {
         }
 
         void refreshAll() {
+            landings.refresh();
             countGot();
             for (int all = 0; all < ALL_SHIFTS; all++) {
                 refreshOne(all);
@@ -1108,8 +1104,8 @@ public final class DriftCards {
             return c * MOST_NAMES + n;
         }
 
+        /** Landings are refreshed before. */
         void countGot() {
-            landings.refresh();
             Arrays.fill(gotThere, 0);
             for (int f = 0; f < finds.size; f++) {
                 int c = reading.castGot(f);
