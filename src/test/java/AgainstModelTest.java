@@ -7,7 +7,8 @@ import java.util.TreeMap;
  */
 public final class AgainstModelTest {
     private static final int RUNS = 120;
-    private static final int CALLS = 400;
+    /** All that the document promises of one object. */
+    private static final int CALLS = 512;
     private static final String[] FIELDS = {"months", "far", "kind", "tongue", "weight"};
     private static int wrong = 0;
     private static final TreeMap<String, TreeMap<String, Integer>> SEEN = new TreeMap<>();
@@ -36,6 +37,7 @@ public final class AgainstModelTest {
 
     private void due(String call, long got, long want) {
         calls++;
+        if (calls > CALLS) return;
         String answer = want < 0 ? Long.toString(want) : want == 0 ? "zero" : "above";
         SEEN.computeIfAbsent(call.substring(0, call.indexOf('(')), k -> new TreeMap<>()).merge(answer, 1, Integer::sum);
         if (got != want) {

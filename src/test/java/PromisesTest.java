@@ -55,18 +55,9 @@ public final class PromisesTest {
         if (wrong != 0) System.exit(1);
     }
 
-    private static void feedText(DriftCards x, String text) {
-        for (int i = 0; i < text.length(); i++) x.feed(text.charAt(i), 1);
-    }
-
-    private static int prizeOf(DriftCards x, String text) {
-        feedText(x, text);
-        return x.prize();
-    }
-
     /** The east coast is shore, all of it walked; every month a step east: all parts are found at (9, y). */
-    private static DriftCards coast() {
-        DriftCards x = new DriftCards();
+    private static Counted coast() {
+        Counted x = new Counted();
         for (int y = 0; y < 6; y++) {
             x.paint(9, 9, y, 0, 1);
             x.paint(9, 9, y, 3, 16);
@@ -76,7 +67,7 @@ public final class PromisesTest {
     }
 
     private static void newObject() {
-        DriftCards x = new DriftCards();
+        Counted x = new Counted();
         for (int what = 0; what < 5; what++) {
             int sum = 0;
             for (int i = 0; i < 60; i++) sum += x.cell(i / 6, i % 6, what);
@@ -95,7 +86,7 @@ public final class PromisesTest {
     }
 
     private static void paint() {
-        DriftCards x = new DriftCards();
+        Counted x = new Counted();
         due("all of a row", x.paint(0, 9, 0, 3, 16), 10);
         due("some anew", x.paint(3, 5, 0, 3, 0), 3);
         due("those that were other", x.paint(0, 9, 0, 3, 16), 3);
@@ -126,7 +117,7 @@ public final class PromisesTest {
     }
 
     private static void cell() {
-        DriftCards x = new DriftCards();
+        Counted x = new Counted();
         int[] most = {2, 2, 16, 16, 4095};
         for (int what = 0; what < 5; what++) {
             x.paint(2, 3, 4, what, most[what]);
@@ -146,7 +137,7 @@ public final class PromisesTest {
     }
 
     private static void current() {
-        DriftCards x = new DriftCards();
+        Counted x = new Counted();
         due("region", x.current(-1, 0, 33, 33), NONE);
         due("region", x.current(3, 0, 33, 33), NONE);
         due("month", x.current(0, -1, 33, 33), NONE);
@@ -181,7 +172,7 @@ public final class PromisesTest {
     }
 
     private static void wind() {
-        DriftCards x = new DriftCards();
+        Counted x = new Counted();
         due("month", x.wind(-1, 0, 0), NONE);
         due("month", x.wind(12, 0, 0), NONE);
         due("NONE ahead of BAD", x.wind(12, 9, 0), NONE);
@@ -208,7 +199,7 @@ public final class PromisesTest {
     }
 
     private static void storm() {
-        DriftCards x = new DriftCards();
+        Counted x = new Counted();
         due("month", x.storm(-1, 0, 0), NONE);
         due("month", x.storm(48, 0, 0), NONE);
         due("NONE ahead of BAD", x.storm(48, 4, 0), NONE);
@@ -234,7 +225,7 @@ public final class PromisesTest {
     }
 
     private static void calm() {
-        DriftCards x = new DriftCards();
+        Counted x = new Counted();
         due("month", x.calm(-1), NONE);
         due("month", x.calm(48), NONE);
         due("none there", x.calm(0), 0);
@@ -251,7 +242,7 @@ public final class PromisesTest {
     }
 
     private static void cast() {
-        DriftCards x = new DriftCards();
+        Counted x = new Counted();
         x.paint(1, 1, 0, 0, 1);
         x.paint(2, 2, 0, 0, 2);
         due("place", x.cast(0, 0, 1, 0, -1, 0), NONE);
@@ -299,7 +290,7 @@ public final class PromisesTest {
     }
 
     private static void about() {
-        DriftCards x = new DriftCards();
+        Counted x = new Counted();
         due("none", x.about(0, 0), NONE);
         x.cast(2, 77, 23, 40, 59, 307);
         x.cast(3, 0, 1000, 0, 0, 100);
@@ -316,7 +307,7 @@ public final class PromisesTest {
     }
 
     private static void parts() {
-        DriftCards x = new DriftCards();
+        Counted x = new Counted();
         due("no cast", x.parts(0, 0, 0), NONE);
         x.cast(2, 0, 1, 0, 0, 2);
         due("cast", x.parts(-1, 0, 0), NONE);
@@ -334,7 +325,7 @@ public final class PromisesTest {
         x.current(0, 1, 24, 33);
         due("the middle stays, with half of those west lost", x.parts(0, 2, 4), 250000);
         due("the rest sinks", x.parts(0, 12, 5), 750000);
-        DriftCards odd = new DriftCards();
+        Counted odd = new Counted();
         odd.current(0, 0, 35, 33);
         odd.current(0, 1, 35, 33);
         odd.cast(0, 0, 1, 0, 0, 0);
@@ -348,8 +339,8 @@ public final class PromisesTest {
         due("2 and 2", odd.partsAt(0, 2, 4, 0, 0), 62500);
     }
 
-    private static DriftCards cross(int east, int north, int kind) {
-        DriftCards x = new DriftCards();
+    private static Counted cross(int east, int north, int kind) {
+        Counted x = new Counted();
         x.paint(5, 5, 2, 0, 0);
         x.paint(7, 7, 2, 0, 2);
         x.paint(3, 3, 3, 0, 1);
@@ -368,7 +359,7 @@ public final class PromisesTest {
         due("east ahead of north, onto the shore", cross(-2, 1, 1).partsAt(0, 1, 3, 3, 1), 1000000);
         due("east ahead of north, past the shore", cross(-3, 1, 1).partsAt(0, 1, 2, 3, 0), 1000000);
         due("at the shore it ends", cross(-2, 3, 1).partsAt(0, 1, 3, 3, 1), 1000000);
-        DriftCards x = cross(1, 0, 1);
+        Counted x = cross(1, 0, 1);
         x.paint(5, 5, 2, 4, 1);
         due("ice in the month", x.partsAt(0, 1, 5, 2, 0), 1000000);
         x.paint(5, 5, 2, 4, 4094);
@@ -377,7 +368,7 @@ public final class PromisesTest {
         due("comes to the east of it", x.partsAt(0, 1, 5, 2, 0), 1000000);
         x.paint(5, 5, 2, 1, 1);
         due("that of its region alone", x.partsAt(0, 1, 6, 2, 0), 1000000);
-        DriftCards halves = new DriftCards();
+        Counted halves = new Counted();
         halves.cast(0, 0, 1, 0, 6 * 5 + 3, 0);
         int[][] spans = {{3, -1}, {14, 0}, {5, 0}, {36, 1}, {23, 0}, {34, 0}};
         for (int[] span : spans) {
@@ -392,7 +383,7 @@ public final class PromisesTest {
     }
 
     private static void partsAshore() {
-        DriftCards x = new DriftCards();
+        Counted x = new Counted();
         x.paint(6, 6, 2, 0, 1);
         x.paint(6, 6, 2, 3, 3);
         x.paint(6, 6, 2, 2, 5);
@@ -413,14 +404,14 @@ public final class PromisesTest {
         x.paint(5, 5, 2, 2, 16);
         x.current(0, 0, 33, 33);
         due("none in water is found or buried", x.parts(0, 12, 0), 1000000);
-        DriftCards corner = new DriftCards();
+        Counted corner = new Counted();
         corner.paint(0, 0, 0, 0, 1);
         corner.paint(0, 0, 0, 3, 16);
         corner.wind(0, -1, 0);
         corner.cast(1, 0, 1, 0, 6, 0);
         due("in the first cell of all", corner.partsAt(0, 1, 0, 0, 2), 1000000);
         due("in the first cell of all", corner.tells(1, 0, 6, 0), 2 * 100000 - 100000);
-        DriftCards sinking = new DriftCards();
+        Counted sinking = new Counted();
         sinking.paint(6, 6, 2, 0, 1);
         sinking.current(0, 0, 34, 33);
         sinking.cast(2, 0, 1, 0, 6 * 5 + 2, 1);
@@ -429,7 +420,7 @@ public final class PromisesTest {
     }
 
     private static void partsAt() {
-        DriftCards x = coast();
+        Counted x = coast();
         x.paint(9, 9, 2, 3, 8);
         x.cast(0, 0, 1, 0, 6 * 7 + 2, 0);
         due("cast", x.partsAt(-1, 0, 0, 0, 0), NONE);
@@ -454,7 +445,7 @@ public final class PromisesTest {
     }
 
     private static void apart() {
-        DriftCards x = coast();
+        Counted x = coast();
         x.cast(0, 0, 1, 0, 6 * 2 + 2, 0);
         x.cast(0, 1, 1, 20, 6 * 2 + 2, 0);
         x.cast(1, 2, 1, 0, 6 * 2 + 2, 0);
@@ -475,11 +466,11 @@ public final class PromisesTest {
         due("buried does not", x.apart(0, 1), 7);
         for (int month = 0; month < 12; month++) x.current(0, month, 33, 33);
         due("never", x.apart(0, 1), STATE);
-        DriftCards first = new DriftCards();
+        Counted first = new Counted();
         first.cast(0, 0, 1, 0, 0, 0);
         first.cast(0, 1, 1, 0, 0, 0);
         due("in the first cell of all", first.apart(0, 1), STATE);
-        DriftCards last = new DriftCards();
+        Counted last = new Counted();
         last.cast(0, 0, 1, 0, 59, 0);
         last.cast(0, 1, 1, 0, 59, 0);
         due("in the last cell of all", last.apart(0, 1), STATE);
@@ -490,7 +481,7 @@ public final class PromisesTest {
     }
 
     private static void name() {
-        DriftCards x = new DriftCards();
+        Counted x = new Counted();
         due("x1", x.name(10, 0, 0), NONE);
         due("x1", x.name(99, 0, 0), NONE);
         due("x0", x.name(1000, 0, 0), NONE);
@@ -516,7 +507,7 @@ public final class PromisesTest {
     }
 
     private static void find() {
-        DriftCards x = new DriftCards();
+        Counted x = new Counted();
         due("no name", x.find(0, 0, 0, 0, 0), NONE);
         x.name(9, 5, 0);
         due("name", x.find(0, 0, 1, 0, 0), NONE);
@@ -541,7 +532,7 @@ public final class PromisesTest {
     }
 
     private static void clock() {
-        DriftCards x = new DriftCards();
+        Counted x = new Counted();
         due("below 0", x.clock(-1), BAD);
         due("above 999", x.clock(1000), BAD);
         due("on", x.clock(5), 0);
@@ -553,7 +544,7 @@ public final class PromisesTest {
     }
 
     private static void drop() {
-        DriftCards x = new DriftCards();
+        Counted x = new Counted();
         due("no find", x.drop(0, 0), NONE);
         x.name(0, 0, 0);
         x.find(0, 0, 0, 0, 0);
@@ -571,8 +562,8 @@ public final class PromisesTest {
     }
 
     /** Casts 0 (numbers 1200 .. 1299, month 3) and 1 (likewise of caster 1, month 12), both two cells off the coast. */
-    private static DriftCards twoCasts() {
-        DriftCards x = coast();
+    private static Counted twoCasts() {
+        Counted x = coast();
         x.paint(9, 9, 2, 3, 8);
         x.cast(0, 1200, 100, 3, 6 * 7 + 2, 0);
         x.cast(1, 1200, 100, 12, 6 * 7 + 2, 100);
@@ -582,7 +573,7 @@ public final class PromisesTest {
     }
 
     private static void weight() {
-        DriftCards x = twoCasts();
+        Counted x = twoCasts();
         due("f", x.weight(0, 0), NONE);
         x.find(0x1234, 0, 0, 0, 60);
         x.find(0x1234, 0, 0, 0, 3);
@@ -619,7 +610,7 @@ public final class PromisesTest {
     }
 
     private static void judge() {
-        DriftCards x = twoCasts();
+        Counted x = twoCasts();
         due("f", x.judge(0), NONE);
         x.find(0x1234, 0, 0, 0, 60);
         x.find(0x1234, 0, 0, 0, 3);
@@ -640,7 +631,7 @@ public final class PromisesTest {
         due("out is no matter", x.judge(0), 2);
         x.move(0, -1);
         due("fake", x.judge(4), 0);
-        DriftCards early = coast();
+        Counted early = coast();
         early.name(909, 5, 0);
         early.find(0x0003, 2, 0, 0, 60);
         due("ahead of all casts", early.judge(0), 3);
@@ -652,7 +643,7 @@ public final class PromisesTest {
 
     /** A quarter of what is in a cell goes a step east each month: 15 parts come to the shore in the eighth. */
     private static void onePart() {
-        DriftCards x = new DriftCards();
+        Counted x = new Counted();
         for (int month = 0; month < 12; month++) x.current(0, month, 34, 33);
         x.paint(8, 8, 0, 0, 1);
         x.paint(8, 8, 0, 3, 2);
@@ -668,7 +659,7 @@ public final class PromisesTest {
     }
 
     private static void best() {
-        DriftCards x = coast();
+        Counted x = coast();
         x.paint(9, 9, 2, 3, 8);
         x.name(909, 202, 0);
         x.cast(0, 1000, 10, 3, 6 * 3 + 2, 0);
@@ -689,7 +680,7 @@ public final class PromisesTest {
     }
 
     private static void cards() {
-        DriftCards x = coast();
+        Counted x = coast();
         x.name(909, 5, 0);
         x.cast(0, 995, 110, 0, 6 * 7, 0);
         int[] rows = {0x0995, 0x1104, 0x1105, 0x0994, 0x0AAA, 0xAA99, 0xAAA5, 0xAAAA, 0x10A0, 0xA99A, 0x1AA4};
@@ -705,7 +696,7 @@ public final class PromisesTest {
     }
 
     private static void twin() {
-        DriftCards x = new DriftCards();
+        Counted x = new Counted();
         x.name(0, 0, 0);
         x.name(1, 0, 0);
         x.find(0x1234, 0, 0, 0, 0);
@@ -731,7 +722,7 @@ public final class PromisesTest {
     }
 
     private static void got() {
-        DriftCards x = twoCasts();
+        Counted x = twoCasts();
         x.find(0x1201, 0, 0, 0, 60);
         x.find(0x1201, 0, 0, 0, 60);
         x.clock(10);
@@ -762,7 +753,7 @@ public final class PromisesTest {
     }
 
     private static void move() {
-        DriftCards x = new DriftCards();
+        Counted x = new Counted();
         due("region", x.move(-1, 0), STATE);
         due("region", x.move(3, 0), STATE);
         due("STATE ahead of BAD", x.move(3, 2), STATE);
@@ -776,8 +767,8 @@ public final class PromisesTest {
     }
 
     /** With a shift of 0 in region 0 all of the 4 cards go to (9, 3), with 1 to (9, 2); with -1 they never land. */
-    private static DriftCards fitting() {
-        DriftCards x = new DriftCards();
+    private static Counted fitting() {
+        Counted x = new Counted();
         for (int y = 0; y < 6; y++) {
             x.paint(9, 9, y, 0, 1);
             x.paint(9, 9, y, 3, 16);
@@ -792,7 +783,7 @@ public final class PromisesTest {
     }
 
     private static void fit() {
-        DriftCards x = new DriftCards();
+        Counted x = new Counted();
         due("region", x.fit(-1), STATE);
         due("region", x.fit(3), STATE);
         due("the first of all", x.fit(0), -1);
@@ -804,8 +795,8 @@ public final class PromisesTest {
      * Parts go through regions 0, 1, 2 in turn. A name of (9, 3) and a find there (of 1 card): the least is missed
      * where the most come there.
      */
-    private static DriftCards threeRegions() {
-        DriftCards x = new DriftCards();
+    private static Counted threeRegions() {
+        Counted x = new Counted();
         for (int y = 0; y < 6; y++) {
             x.paint(9, 9, y, 0, 1);
             x.paint(9, 9, y, 3, 16);
@@ -816,7 +807,7 @@ public final class PromisesTest {
     }
 
     private static void fitByRegions() {
-        DriftCards x = threeRegions();
+        Counted x = threeRegions();
         x.name(909, 3, 0);
         x.cast(0, 7, 1, 0, 6 * 8 + 3, 0);
         due("nothing got: no shift that lands it", x.fit(2), -1);
@@ -829,7 +820,7 @@ public final class PromisesTest {
         x.move(2, 0);
         due("not sure any more", x.judge(0), 0);
         due("nothing got", x.fit(2), -1);
-        DriftCards two = threeRegions();
+        Counted two = threeRegions();
         two.name(909, 3, 0);
         two.cast(0, 7, 1, 0, 6 * 2 + 3, 0);
         two.move(0, 1);
@@ -847,7 +838,7 @@ public final class PromisesTest {
 
     /** What lands with the shifts that come first: -1 of all regions, or 0 of region 2 alone. */
     private static void firstOfAll() {
-        DriftCards x = new DriftCards();
+        Counted x = new Counted();
         x.paint(0, 0, 3, 0, 1);
         x.paint(0, 0, 3, 3, 16);
         x.paint(1, 9, 3, 1, 2);
@@ -865,7 +856,7 @@ public final class PromisesTest {
 
     /** Shifts 0 and 1, 1 and 0, 1 and 1 of regions 0 and 1 all land it: those with the least of region 0 come first. */
     private static void orderOfShifts() {
-        DriftCards x = new DriftCards();
+        Counted x = new Counted();
         x.paint(7, 7, 0, 0, 1);
         x.paint(7, 7, 0, 3, 16);
         x.paint(5, 6, 0, 1, 1);
@@ -885,7 +876,7 @@ public final class PromisesTest {
     }
 
     private static void sureByToldShifts() {
-        DriftCards x = fitting();
+        Counted x = fitting();
         x.name(909, 202, 0);
         x.name(909, 303, 0);
         for (int i = 0; i < 4; i++) x.find(0x1000 + i, 0, 1, 0, 60);
@@ -898,7 +889,7 @@ public final class PromisesTest {
     }
 
     private static void misfit() {
-        DriftCards x = fitting();
+        Counted x = fitting();
         due("no names", x.misfit(), 0);
         x.name(909, 202, 0);
         due("none lands with -1", x.misfit(), 0);
@@ -915,7 +906,7 @@ public final class PromisesTest {
     }
 
     private static void misses() {
-        DriftCards x = twoCasts();
+        Counted x = twoCasts();
         due("99951 and 99951 (cut), in one name", x.misses(), 2 * 99951L * 99951L);
         x.find(0x1201, 0, 0, 0, 60);
         due("one got", x.misses(), 98951L * 98951L + 99951L * 99951L);
@@ -931,7 +922,7 @@ public final class PromisesTest {
         x.find(0x1202, 1, 2, 0, 60);
         due("as of 999", x.misses(), 98951L * 98951L + 3 * 99951L * 99951L);
         missesByRegion();
-        DriftCards most = coast();
+        Counted most = coast();
         for (int n = 0; n < 6; n++) most.name(9, 5, 0);
         for (int c = 0; c < 5; c++) most.cast(0, 1000 * c, 1000, 0, 6 * 7 + c, 0);
         due("the most", most.misses(), 30L * 1000000 * 1000000);
@@ -939,7 +930,7 @@ public final class PromisesTest {
 
     /** A card in each region next to the shore: it lands with a shift of 1 there. */
     private static void missesByRegion() {
-        DriftCards x = new DriftCards();
+        Counted x = new Counted();
         for (int region = 0; region < 3; region++) {
             x.paint(9, 9, region, 0, 1);
             x.paint(9, 9, region, 3, 16);
@@ -971,7 +962,7 @@ public final class PromisesTest {
     }
 
     private static void doubt() {
-        DriftCards x = new DriftCards();
+        Counted x = new Counted();
         due("region", x.doubt(-1), NONE);
         due("region", x.doubt(3), NONE);
         due("no finds", x.doubt(0), 0);
@@ -1002,7 +993,7 @@ public final class PromisesTest {
 
     /** Casts 0 and 1 land with shift 1 of regions 0 and 1; finds of cast 0 came first, later ones are of cast 1. */
     private static void latestThree() {
-        DriftCards x = new DriftCards();
+        Counted x = new Counted();
         x.paint(9, 9, 0, 0, 1);
         x.paint(9, 9, 1, 0, 1);
         x.paint(9, 9, 0, 3, 16);
@@ -1027,7 +1018,7 @@ public final class PromisesTest {
     }
 
     private static void tells() {
-        DriftCards x = coast();
+        Counted x = coast();
         x.paint(0, 0, 5, 0, 2);
         due("place", x.tells(0, 0, -1, 0), NONE);
         due("place", x.tells(0, 0, 60, 0), NONE);
@@ -1056,7 +1047,7 @@ public final class PromisesTest {
         x.move(0, 0);
         due("no state changed", x.move(1, 0), 0);
         due("nothing cast", x.count(0), 0);
-        DriftCards kinds = new DriftCards();
+        Counted kinds = new Counted();
         kinds.paint(9, 9, 0, 0, 1);
         kinds.paint(9, 9, 0, 3, 16);
         kinds.wind(0, -1, 0);
@@ -1067,7 +1058,7 @@ public final class PromisesTest {
         due("a sail: none lands", kinds.tells(3, 24, 48, 0), 0);
         kinds.storm(24, 1, 0);
         due("a sail in a storm: all land", kinds.tells(3, 24, 48, 0), 0);
-        DriftCards west = new DriftCards();
+        Counted west = new Counted();
         west.paint(0, 0, 0, 0, 1);
         west.paint(0, 0, 0, 3, 16);
         west.paint(0, 9, 0, 4, 4094);
@@ -1075,7 +1066,7 @@ public final class PromisesTest {
         due("with -1 it stays, others go off", west.tells(0, 0, 6, 0), 0);
         west.current(0, 0, 33, 33);
         due("with -1 alone it lands", west.tells(0, 0, 6, 0), 200000);
-        DriftCards cut = new DriftCards();
+        Counted cut = new Counted();
         cut.paint(9, 9, 0, 0, 1);
         cut.paint(9, 9, 1, 0, 1);
         cut.paint(9, 9, 0, 3, 5);
@@ -1100,7 +1091,7 @@ public final class PromisesTest {
     }
 
     private static void feed() {
-        DriftCards x = new DriftCards();
+        Counted x = new Counted();
         due("n", x.feed(0, 0), BAD);
         due("n", x.feed(0, -1), BAD);
         due("n", x.feed(0, 9), BAD);
@@ -1124,7 +1115,7 @@ public final class PromisesTest {
     }
 
     private static void prize() {
-        DriftCards x = new DriftCards();
+        Counted x = new Counted();
         due("empty", x.prize(), -10);
         String[] wrongs = {"Prize 1", "prise 1", "prize", "prize ", "prize  1", "prize x", "prize 12345", "prize 1 ", "prize 1  if far=1",
             "prize 1i", "prize 1 i", "prize 1 of", "prize 1 if", "prize 1 if ", "prize 1 if  far=1", "prize 1 if far", "prize 1 if far=",
@@ -1141,38 +1132,38 @@ public final class PromisesTest {
             28, 28, 7, 0, 6, 15,
             18, 14, 11};
         for (int i = 0; i < wrongs.length; i++) {
-            due("'" + wrongs[i] + "'", prizeOf(x, wrongs[i]), -10 - faults[i]);
+            due("'" + wrongs[i] + "'", Bounds.prizeOf(x, wrongs[i]), -10 - faults[i]);
             due("THE TAPE is empty then", x.count(5), 0);
         }
         due("none was one", x.count(3), 0);
         String[] right = {"prize 0", "prize 9999", "prize 0007 if months=0", "prize 1 if !far<9999&kind>0", "prize 1 if tongue=0001&!weight=5&!weight>1",
             "prize 1 if months=1&months=2&months=3", "prize 12 if kind=1"};
         for (int i = 0; i < right.length; i++) {
-            due("'" + right[i] + "'", prizeOf(x, right[i]), i);
+            due("'" + right[i] + "'", Bounds.prizeOf(x, right[i]), i);
             due("THE TAPE is empty then", x.count(5), 0);
         }
-        due("an eighth", prizeOf(x, "prize 1"), 7);
-        feedText(x, "rubbish");
+        due("an eighth", Bounds.prizeOf(x, "prize 1"), 7);
+        Bounds.feedText(x, "rubbish");
         due("FULL ahead of the FAULT", x.prize(), FULL);
         due("THE TAPE stays", x.count(5), 7);
         due("eight", x.count(3), 8);
     }
 
     /** One cast in month 3 at (7, 2), found at (9, 2): find 0 there, of a name of tongue 4, in months 5 .. 60. */
-    private static DriftCards paying() {
-        DriftCards x = twoCasts();
+    private static Counted paying() {
+        Counted x = twoCasts();
         x.find(0x1201, 0, 0, 5, 60);
         return x;
     }
 
     private static int payFor(String text) {
-        DriftCards x = paying();
-        prizeOf(x, text);
+        Counted x = paying();
+        Bounds.prizeOf(x, text);
         return x.pays(0);
     }
 
     private static void pays() {
-        DriftCards x = paying();
+        Counted x = paying();
         due("f", x.pays(-1), NONE);
         due("f", x.pays(1), NONE);
         due("no prizes", x.pays(0), 0);
@@ -1182,14 +1173,14 @@ public final class PromisesTest {
         String[] failing = {"months=3", "months<2", "months>2", "far=1", "kind=1", "tongue=3", "weight=500", "!weight=499", "!far<3",
             "months=2&far=3", "months=3&far=2", "months=2&far=2&kind=1", "months=2&far=2&!kind=0"};
         for (String test : failing) due(test, payFor("prize 17 if " + test), 0);
-        DriftCards whole = twoCasts();
+        Counted whole = twoCasts();
         whole.find(0x1299, 0, 0, 4, 4);
-        prizeOf(whole, "prize 9 if weight=500");
+        Bounds.prizeOf(whole, "prize 9 if weight=500");
         due("a weight of 500000", whole.pays(0), 9);
         x = paying();
-        prizeOf(x, "prize 100");
-        prizeOf(x, "prize 20 if far=2");
-        prizeOf(x, "prize 3 if far=1");
+        Bounds.prizeOf(x, "prize 100");
+        Bounds.prizeOf(x, "prize 20 if far=2");
+        Bounds.prizeOf(x, "prize 3 if far=1");
         due("all whose tests hold", x.pays(0), 120);
         x.drop(0, 1);
         due("out", x.pays(0), 0);
@@ -1201,9 +1192,9 @@ public final class PromisesTest {
         x.find(0x1202, 0, 0, 0, 0);
         due("a fake", x.pays(2), 0);
         x.find(0x1202, 0, 0, 0, 60);
-        DriftCards early = paying();
+        Counted early = paying();
         early.find(0x1202, 0, 0, 0, 60);
-        prizeOf(early, "prize 5 if months=0");
+        Bounds.prizeOf(early, "prize 5 if months=0");
         due("months 0 at least", early.pays(1), 5);
         due("not of the other", early.pays(0), 0);
         farFrom();
@@ -1213,7 +1204,7 @@ public final class PromisesTest {
     private static void farFrom() {
         int[][] ways = {{0, 0, 1}, {3, 0, 3}, {3, 3, 6}, {0, 3, 3}, {-3, 3, 6}, {-3, 0, 3}, {-3, -2, 5}, {0, -2, 2}, {2, -2, 4}};
         for (int[] way : ways) {
-            DriftCards x = new DriftCards();
+            Counted x = new Counted();
             int sx = 3 + way[0];
             int sy = 2 + way[1];
             if (way[0] == 0 && way[1] == 0) sx = 4;
@@ -1225,29 +1216,29 @@ public final class PromisesTest {
             x.name(9, 5, 0);
             x.find(0, 0, 0, 0, 60);
             x.find(1, 0, 1, 0, 60);
-            prizeOf(x, "prize 1 if far=" + way[2]);
-            prizeOf(x, "prize 20 if far=0");
+            Bounds.prizeOf(x, "prize 1 if far=" + way[2]);
+            Bounds.prizeOf(x, "prize 20 if far=0");
             due("far " + way[0] + ", " + way[1], x.pays(0), 1);
             due("another card", x.pays(1), 0);
         }
-        DriftCards x = coast();
+        Counted x = coast();
         x.cast(0, 0, 1, 0, 6 * 3 + 2, 0);
         int[] names = {509, 609, 9, 309};
         int[] far = {2, 3, 0, 0};
         for (int n = 0; n < 4; n++) {
             x.name(names[n], n == 0 ? 202 : 5, 0);
             x.find(0xAAA0, 0, n, 0, 60);
-            prizeOf(x, "prize " + (n + 1) + " if far=" + n);
+            Bounds.prizeOf(x, "prize " + (n + 1) + " if far=" + n);
         }
         for (int n = 0; n < 4; n++) due("far from x " + names[n], x.pays(n), far[n] + 1);
     }
 
     private static void purse() {
-        DriftCards x = twoCasts();
+        Counted x = twoCasts();
         due("as of", x.purse(-1), BAD);
         due("as of", x.purse(1000), BAD);
-        prizeOf(x, "prize 10");
-        prizeOf(x, "prize 5 if kind=1");
+        Bounds.prizeOf(x, "prize 10");
+        Bounds.prizeOf(x, "prize 5 if kind=1");
         x.find(0x1201, 0, 0, 0, 60);
         x.clock(7);
         x.find(0x1201, 1, 0, 0, 60);
@@ -1265,7 +1256,7 @@ public final class PromisesTest {
     }
 
     private static void letters() {
-        DriftCards x = new DriftCards();
+        Counted x = new Counted();
         x.name(0, 0, 5);
         x.name(0, 0, 0);
         x.name(1, 1, 5);
@@ -1289,7 +1280,7 @@ public final class PromisesTest {
     }
 
     private static void count() {
-        DriftCards x = new DriftCards();
+        Counted x = new Counted();
         due("what", x.count(-1), NONE);
         due("what", x.count(8), NONE);
         due("what", x.count(LOW), NONE);
@@ -1302,7 +1293,7 @@ public final class PromisesTest {
         x.drop(1, 1);
         x.drop(2, 1);
         x.drop(2, 1);
-        prizeOf(x, "prize 1");
+        Bounds.prizeOf(x, "prize 1");
         x.clock(77);
         x.feed(0, 6);
         int[] due = {2, 3, 4, 1, 77, 6, 1001, 2};
