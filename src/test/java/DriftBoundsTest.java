@@ -15,6 +15,7 @@ public final class DriftBoundsTest extends Bounds {
         intoLand();
         foundAndBuried();
         fewFoundAndBuried();
+        onePart();
         neverLostCountOf();
         parts();
         partsAt();
@@ -384,6 +385,52 @@ public final class DriftBoundsTest extends Bounds {
         due("one of 15 is found", both.parts(0, 8, 2), 1);
         due("one of the other 14 is buried", both.parts(0, 8, 3), 1);
         due("13 stay", both.parts(0, 8, 1), 13);
+    }
+
+    /**
+     * Just one part comes to (9, 1), in the tenth month: 61 are in (7, 0) behind seven; 31 of them go a row north, a quarter
+     * of these a step east, and a quarter of these, again.
+     */
+    private static Counted onePartTo(int is, int walked, int sand) {
+        Counted x = new Counted();
+        for (int month = 0; month < 7; month++) x.current(0, month, 34, 33);
+        x.paint(7, 9, 0, 1, 1);
+        x.paint(7, 9, 1, 1, 1);
+        x.current(1, 7, 33, 35);
+        x.current(1, 8, 34, 33);
+        x.current(1, 9, 34, 33);
+        x.paint(9, 9, 1, 0, is);
+        x.paint(9, 9, 1, 3, walked);
+        x.paint(9, 9, 1, 2, sand);
+        x.cast(0, 0, 1, 0, place(0, 0), 0);
+        return x;
+    }
+
+    private static void onePart() {
+        says("month by month in parts that are never lost count of");
+        Counted water = onePartTo(0, 0, 0);
+        due("61", water.partsAt(0, 7, 7, 0, 0), 61);
+        due("others of 61", water.partsAt(0, 8, 7, 1, 0), 31);
+        due("a quarter of 31", water.partsAt(0, 9, 8, 1, 0), 7);
+        due("a quarter of 7", water.partsAt(0, 10, 9, 1, 0), 1);
+        due("it stays", water.partsAt(0, 12, 9, 1, 0), 1);
+        due("all are there", water.parts(0, 12, 0), ALL);
+        water.current(1, 10, 24, 33);
+        due("no quarter of one part goes: none is lost", water.parts(0, 11, 4), 0);
+        due("it stays, and 3 of 12 come", water.partsAt(0, 11, 9, 1, 0), 1 + 3);
+        water.current(1, 10, 33, 44);
+        due("it goes with all others", water.partsAt(0, 11, 9, 2, 0), 1);
+        says("Of PARTS ASHORE in each CELL those times WALKED / 16, cut, are FOUND there in this month");
+        due("one part is found", onePartTo(1, 16, 0).parts(0, 10, 2), 1);
+        due("with 15 sixteenths none is", onePartTo(1, 15, 0).parts(0, 12, 2), 0);
+        due("it is ashore", onePartTo(1, 15, 0).parts(0, 12, 1), 1);
+        says("of the others those times SAND / 16, cut, are BURIED");
+        due("one part is buried", onePartTo(1, 0, 16).parts(0, 10, 3), 1);
+        due("with 15 sixteenths none is", onePartTo(1, 15, 15).parts(0, 12, 3), 0);
+        says("into a CELL that is not there: LOST");
+        Counted off = onePartTo(0, 0, 0);
+        off.current(1, 10, 44, 33);
+        due("one part is lost", off.parts(0, 11, 4), 1);
     }
 
     private static void neverLostCountOf() {

@@ -26,6 +26,7 @@ public final class FindBoundsTest extends Bounds {
         gotAsOf();
         gotByName();
         gotAll();
+        castsBehindFinds();
         end();
     }
 
@@ -585,5 +586,21 @@ public final class FindBoundsTest extends Bounds {
         due("all out", x.got(0, -1, 999), 0);
         due("all out", x.count(7), 16);
         due("none of them writes", x.letters(5, 999), 0);
+    }
+
+    private static void castsBehindFinds() {
+        says("read against all casts");
+        Counted x = coast();
+        x.name(9, 5, 0);
+        for (int f = 0; f < 16; f++) x.find(rowOf(10 * (f % 5) + f / 5), 0, 0, 0, 60);
+        for (int c = 0; c < 5; c++) {
+            due("ahead of cast " + c + ": none fits find " + c, x.judge(c), 3);
+            castAtCoast(x, c, 10 * c, 10, 0);
+            due("behind it: sure", x.judge(c), 2);
+            due("its best", x.best(c), c);
+        }
+        for (int f = 0; f < 16; f++) due("find " + f, x.best(f), f % 5);
+        int[] got = {4, 3, 3, 3, 3};
+        for (int c = 0; c < 5; c++) due("got by cast " + c, x.got(c, -1, 0), got[c]);
     }
 }

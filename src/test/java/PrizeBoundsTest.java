@@ -132,6 +132,21 @@ public final class PrizeBoundsTest extends Bounds {
         due("nothing is left of it", prizeOf(x, "prize 2"), 1);
         due("a fault at 0", prizeOf(x, "x"), -10);
         due("nothing is left of it", prizeOf(x, "prize 3"), 2);
+        for (int end = 0; end < LONGEST.length(); end++) {
+            Counted longer = new Counted();
+            String part = LONGEST.substring(0, end);
+            boolean whole = isWhole(part);
+            prizeOf(longer, LONGEST);
+            due("'" + part + "' behind all of it", prizeOf(longer, part), whole ? 1 : -10 - end);
+        }
+        Counted y = paying();
+        prizeOf(y, "prize 1234");
+        String[] shorter = {"prize 1", "prize 12", "prize 123"};
+        int[] sums = {1235, 1247, 1370};
+        for (int i = 0; i < 3; i++) {
+            prizeOf(y, shorter[i]);
+            due("'" + shorter[i] + "' behind a longer one", y.pays(0), sums[i]);
+        }
     }
 
     /** A byte that no prize has, at each place: that is the fault. */
@@ -153,10 +168,14 @@ public final class PrizeBoundsTest extends Bounds {
             for (int end = 0; end < text.length(); end++) {
                 Counted x = new Counted();
                 String part = text.substring(0, end);
-                boolean whole = part.matches("prize [0-9]+|.*[=<>][0-9]+");
+                boolean whole = isWhole(part);
                 due("'" + part + "'", prizeOf(x, part), whole ? 0 : -10 - end);
             }
         }
+    }
+
+    private static boolean isWhole(String beginning) {
+        return beginning.matches("prize [0-9]+|.*[=<>][0-9]+");
     }
 
     /** Which bytes may follow, of all 256; a text that is no prize with one that may ends too early behind it. */

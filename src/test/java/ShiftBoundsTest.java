@@ -5,6 +5,7 @@ public final class ShiftBoundsTest extends Bounds {
         nothingToFit();
         fitOfEachShift();
         firstOfSeveral();
+        noOtherShifts();
         sureByShiftsTold();
         missedIsCut();
         missedInTwelveMonths();
@@ -126,6 +127,21 @@ public final class ShiftBoundsTest extends Bounds {
                     due(what + ": nothing is missed", x.misfit(), 0);
                 }
             }
+        }
+    }
+
+    /** Shifts of -1, 0 and 1 all land cards that none got; a greater one, which there is not, would not. */
+    private static void noOtherShifts() {
+        says("and a SHIFT (-1 .. 1; 0 at first)");
+        for (int region = 0; region < 3; region++) {
+            Counted x = new Counted();
+            for (int y = 0; y < 2; y++) x.paint(0, 9, y, 1, region);
+            for (int cx = 3; cx <= 5; cx++) shore(x, cx, 1, 16, 0);
+            x.current(region, 0, 33, 44);
+            x.cast(0, 0, 2, 0, place(4, 0), 0);
+            x.name(9, 5, 0);
+            due("all shifts of region " + region + " miss as much", x.misfit(), 2000L * 2000);
+            for (int r = 0; r < 3; r++) due("the first of all", x.fit(r), -1);
         }
     }
 

@@ -6,7 +6,7 @@ final class States {
         return new Counted();
     }
 
-    /** The east coast is shore but for land at (9, 3); row 5 is land. All the year there is a drift to the east. */
+    /** The east coast is shore but for land at (9, 3) and all of row 5. All the year there is a drift to the east. */
     private static Counted sea() {
         Counted x = new Counted();
         for (int y = 0; y < 6; y++) {
