@@ -3,8 +3,7 @@ import java.lang.reflect.Method;
 import java.lang.reflect.Modifier;
 
 /** Rule 7 of LANGUAGE.md: no call throws, for any arguments in any state; beyond 512 calls, too, where answers are free. */
-public final class AnyArgumentsTest {
-    private static final int LOW = Integer.MIN_VALUE, HIGH = Integer.MAX_VALUE;
+public final class AnyArgumentsTest extends Bounds {
     private static final int[] MANY = {LOW, LOW + 1, -101, -100, -99, -2, -1, 0, 1, 2, 3, 4, 5, 6, 8, 9, 10, 11, 12, 13, 15, 16, 33, 47,
         48, 59, 60, 66, 99, 100, 112, 120, 399, 400, 505, 909, 999, 1000, 4095, 4096, 9999, 10000, 0xAAAA, 0xFFFF, HIGH - 1, HIGH};
     private static final int[] SOME = {LOW, -1, 0, 1, 5, 9, 12, 33, 47, 60, 909, 4095, HIGH};
@@ -13,14 +12,16 @@ public final class AnyArgumentsTest {
     private static int thrown = 0;
 
     public static void main(String[] args) throws IllegalAccessException {
+        says("An object is used for at most 512 calls after it has been made; what later calls answer is free.");
         for (Method m : DriftCards.class.getDeclaredMethods()) {
             if (!Modifier.isPublic(m.getModifiers())) continue;
             tryAll(m, States.empty().bare());
             tryAll(m, States.some().bare());
             tryAll(m, States.full().bare());
         }
-        System.out.println(calls + " calls, " + thrown + " have thrown");
-        if (thrown != 0) System.exit(1);
+        due("calls that have thrown", thrown, 0);
+        due("objects were called more than 512 times", calls > 3 * 512 ? 1 : 0, 1);
+        end();
     }
 
     private static void tryAll(Method m, DriftCards x) throws IllegalAccessException {

@@ -13,6 +13,7 @@ public final class CastBoundsTest extends Bounds {
         weightedMonths();
         numbersOfOneCaster();
         about();
+        placeAndMore();
         end();
     }
 
@@ -147,7 +148,7 @@ public final class CastBoundsTest extends Bounds {
             x.cast(2, 2, 1, 0, place(5, 3), 12);
             x.cast(3, 3, 1, 0, place(5, 3), 0);
             x.cast(2, 4, 1, 1, place(5, 3), 12);
-            says("0 FLAT: no WIND counts");
+            says("of a KIND: 0 FLAT: no WIND counts");
             due("wind " + winds[i], x.partsAt(0, 2, 5, 3, 0), ALL);
             says("1 BOTTLE: WIND");
             due("wind " + winds[i], x.partsAt(1, 1, 5 + winds[i], 3, 0), ALL);
@@ -242,5 +243,29 @@ public final class CastBoundsTest extends Bounds {
         int[] not = {-1, 5, LOW, HIGH};
         for (int c : not) due("cast " + c, x.about(c, 0), NONE);
         for (int what : new int[] {LOW, HIGH}) due("what " + what, x.about(0, what), NONE);
+    }
+
+    private static void placeAndMore() {
+        says("A CAST (place: 6 x + y; more: 100 times the CASTER and, WEIGHTED, the months behind which it sinks, else 0): its number.");
+        for (int at = 0; at < 60; at += 5) {
+            Counted x = new Counted();
+            for (int c = 0; c < 5; c++) {
+                due("place " + (at + c), x.cast(0, c, 1, 0, at + c, 0), c);
+                for (int cx = 0; cx < 10; cx++) {
+                    int there = 0;
+                    for (int cy = 0; cy < 6; cy++) if (x.partsAt(c, 0, cx, cy, 0) == ALL) there += 10 + cy;
+                    due("place " + (at + c) + " in column " + cx, there, (at + c) / 6 == cx ? 10 + (at + c) % 6 : 0);
+                }
+            }
+        }
+        for (int kind = 0; kind < 4; kind++) {
+            for (int more = -120; more <= 520; more++) {
+                int months = more % 100;
+                boolean good = more >= 0 && more < 400 && (kind == 2 ? months >= 1 && months <= 12 : months == 0);
+                Counted x = new Counted();
+                due("kind " + kind + ", more " + more, x.cast(kind, 0, 1, 0, 0, more), good ? 0 : BAD);
+                due("its caster", x.about(0, 5), good ? more / 100 : NONE);
+            }
+        }
     }
 }

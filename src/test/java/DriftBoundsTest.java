@@ -5,6 +5,7 @@ public final class DriftBoundsTest extends Bounds {
         atFirst();
         monthByMonth();
         sinking();
+        stepsOfAMonth();
         allAtOnce();
         quarters();
         halves();
@@ -25,7 +26,7 @@ public final class DriftBoundsTest extends Bounds {
     }
 
     private static void months() {
-        says("THE DRIFT of a CAST, for 0 .. 12 months");
+        says("THE DRIFT of a CAST, for 0 .. 12 months: 1000000 PARTS are in its CELL.");
         Counted x = new Counted();
         x.current(0, 11, 44, 33);
         x.cast(0, 0, 1, 0, place(3, 3), 0);
@@ -65,7 +66,7 @@ public final class DriftBoundsTest extends Bounds {
     }
 
     private static void monthByMonth() {
-        says("(t from 0 on; it is month cast + t)");
+        says("A month, t of them ahead of it (t from 0 on; it is month cast + t)");
         for (int cast = 0; cast < 12; cast++) {
             Counted x = new Counted();
             x.current(0, cast, 44, 33);
@@ -78,7 +79,7 @@ public final class DriftBoundsTest extends Bounds {
     }
 
     private static void sinking() {
-        says("if t is its months at least, all PARTS in WATER are SUNK");
+        says("1 WEIGHTED: if t is its months at least, all PARTS in WATER are SUNK.");
         for (int sinks = 1; sinks <= 12; sinks++) {
             Counted x = new Counted();
             currentAllYear(x, 33, 33);
@@ -113,7 +114,7 @@ public final class DriftBoundsTest extends Bounds {
     }
 
     private static void allAtOnce() {
-        says("PARTS of each CELL of WATER go, all at once");
+        says("2 PARTS of each CELL of WATER go, all at once");
         int[][] ways = {{44, 33, 1, 0}, {22, 33, -1, 0}, {33, 44, 0, 1}, {33, 22, 0, -1}, {44, 44, 1, 1}, {22, 22, -1, -1}};
         for (int[] way : ways) {
             Counted x = new Counted();
@@ -322,7 +323,7 @@ public final class DriftBoundsTest extends Bounds {
     }
 
     private static void foundAndBuried() {
-        says("Of PARTS ASHORE in each CELL those times WALKED / 16, cut, are FOUND there in this month");
+        says("3 Of PARTS ASHORE in each CELL those times WALKED / 16, cut, are FOUND there in this month");
         Counted x = new Counted();
         shore(x, 6, 2, 5, 0);
         x.current(0, 0, 44, 33);
@@ -420,7 +421,7 @@ public final class DriftBoundsTest extends Bounds {
         due("it stays, and 3 of 12 come", water.partsAt(0, 11, 9, 1, 0), 1 + 3);
         water.current(1, 10, 33, 44);
         due("it goes with all others", water.partsAt(0, 11, 9, 2, 0), 1);
-        says("Of PARTS ASHORE in each CELL those times WALKED / 16, cut, are FOUND there in this month");
+        says("3 Of PARTS ASHORE in each CELL those times WALKED / 16, cut, are FOUND there in this month");
         due("one part is found", onePartTo(1, 16, 0).parts(0, 10, 2), 1);
         due("with 15 sixteenths none is", onePartTo(1, 15, 0).parts(0, 12, 2), 0);
         due("it is ashore", onePartTo(1, 15, 0).parts(0, 12, 1), 1);
@@ -457,7 +458,7 @@ public final class DriftBoundsTest extends Bounds {
     }
 
     private static void parts() {
-        says("what 0 PARTS in WATER, 1 ASHORE, 2 FOUND, 3 BURIED, 4 LOST, 5 SUNK. NONE; BAD.");
+        says("Behind months (0 .. 12) of THE DRIFT what 0 PARTS in WATER, 1 ASHORE, 2 FOUND, 3 BURIED, 4 LOST, 5 SUNK. NONE; BAD.");
         Counted x = new Counted();
         due("no cast", x.parts(0, 0, 0), NONE);
         x.cast(0, 0, 1, 0, 0, 0);
@@ -501,7 +502,8 @@ public final class DriftBoundsTest extends Bounds {
     }
 
     private static void apart() {
-        says("the least number of 0 .. 12 behind which no CELL has PARTS of both (in WATER or ASHORE)");
+        says("APART are two CASTS behind so many months each, "
+            + "the least number of 0 .. 12 behind which no CELL has PARTS of both (in WATER or ASHORE).");
         for (int behind = 1; behind <= 12; behind++) {
             Counted x = together(20);
             x.storm(20 + behind - 1, 1, 0);
@@ -513,7 +515,8 @@ public final class DriftBoundsTest extends Bounds {
         says("STATE: not within 12.");
         due("a storm in the 13th month is too late", x.apart(0, 1), STATE);
         x.cast(0, 2, 1, 20, place(4, 3), 0);
-        says("the least number of 0 .. 12 behind which no CELL has PARTS of both (in WATER or ASHORE)");
+        says("APART are two CASTS behind so many months each, "
+            + "the least number of 0 .. 12 behind which no CELL has PARTS of both (in WATER or ASHORE).");
         due("apart at first", x.apart(0, 2), 0);
         Counted again = together(20);
         again.storm(22, 1, 0);
@@ -544,7 +547,7 @@ public final class DriftBoundsTest extends Bounds {
         ashore.paint(6, 6, 3, 3, 0);
         ashore.paint(6, 6, 3, 2, 16);
         due("buried is nowhere", ashore.apart(0, 1), 1);
-        says("NONE (c is d, too); STATE: not within 12.");
+        says("APART: behind how many months. NONE (c is d, too); STATE: not within 12.");
         int[] not = {-1, 2, LOW, HIGH};
         for (int c : not) {
             due("c " + c, ashore.apart(c, 0), NONE);
@@ -569,5 +572,24 @@ public final class DriftBoundsTest extends Bounds {
             due("ashore, of the other", x.partsAt(1, 9, 8, 0, 1), ashore[i]);
             due("with " + ashore[i] + " of each in one cell", x.apart(0, 1), want[i]);
         }
+    }
+
+    private static void stepsOfAMonth() {
+        says("1 WEIGHTED: if t is its months at least, all PARTS in WATER are SUNK. 2 PARTS of each CELL of WATER go, all at once");
+        Counted x = new Counted();
+        shore(x, 6, 2, 8, 8);
+        currentAllYear(x, 34, 33);
+        x.cast(2, 0, 1, 0, place(5, 2), 2);
+        due("behind a month: in water", x.parts(0, 1, 0), 750000);
+        due("a quarter goes, and of it half is found in that month", x.parts(0, 1, 2), 125000);
+        due("half of the others is buried in that month", x.parts(0, 1, 3), 62500);
+        due("behind two: in water", x.parts(0, 2, 0), 562500);
+        due("a quarter goes, and with it are those that are ashore", x.parts(0, 2, 2), 125000 + (62500 + 187500) / 2);
+        due("behind three: all in water are sunk ahead of going", x.parts(0, 3, 5), 562500);
+        due("none comes any more", x.parts(0, 3, 1), 62500 / 4);
+        says("3 Of PARTS ASHORE in each CELL those times WALKED / 16, cut, are FOUND there in this month; "
+            + "of the others those times SAND / 16, cut, are BURIED.");
+        due("those ashore are found all the same", x.parts(0, 3, 2), 250000 + 31250);
+        due("and buried", x.parts(0, 3, 3), 62500 + 62500 + 15625);
     }
 }

@@ -8,6 +8,8 @@ public final class FindBoundsTest extends Bounds {
         tongues();
         cellsOfNames();
         sixteenFinds();
+        whatAFindHas();
+        eachMayBeOut();
         digits();
         findMonths();
         findRefuses();
@@ -352,7 +354,7 @@ public final class FindBoundsTest extends Bounds {
     }
 
     private static void weightByMonths() {
-        says("PARTS of its DRIFT (12 months) that are FOUND in CELLS of the NAME in months from .. to; 0 if it does not FIT.");
+        says("WEIGHT: PARTS of its DRIFT (12 months) that are FOUND in CELLS of the NAME in months from .. to; 0 if it does not FIT.");
         int[] casts = {0, 1, 20, 46, 47};
         int[] around = {-2, -1, 0, 1, 2, 10, 11, 12, 13};
         for (int cast : casts) {
@@ -443,7 +445,7 @@ public final class FindBoundsTest extends Bounds {
     }
 
     private static void judged() {
-        says("2 SURE: just one has a WEIGHT; 1 several have; 0 FAKE: some FIT, none has a WEIGHT; 3 none FITS.");
+        says("JUDGED is a FIND: 2 SURE: just one has a WEIGHT; 1 several have; 0 FAKE: some FIT, none has a WEIGHT; 3 none FITS.");
         Counted x = fiveCasts();
         for (int n = 0; n < 6; n++) x.find(0xAAAA, 0, n, 0, 60);
         due("one of five has a weight", x.judge(0), 2);
@@ -602,5 +604,61 @@ public final class FindBoundsTest extends Bounds {
         for (int f = 0; f < 16; f++) due("find " + f, x.best(f), f % 5);
         int[] got = {4, 3, 3, 3, 3};
         for (int c = 0; c < 5; c++) due("got by cast " + c, x.got(c, -1, 0), got[c]);
+    }
+
+    /**
+     * A cast of each caster c lands at (9, c), which has a name of its own with tongue c. Find f is one of caster f % 4, with a
+     * number and a month of its own; those behind the eighth are half read.
+     */
+    private static Counted findsOfFour() {
+        Counted x = coast();
+        for (int c = 0; c < 4; c++) {
+            x.cast(0, 100 * c, 10, 0, place(8, c), 100 * c);
+            x.name(909, 101 * c, c);
+        }
+        for (int f = 0; f < 16; f++) {
+            int row = f % 4 << 8 | f / 4;
+            x.clock(10 * f);
+            x.find(f < 8 ? row : row | 0xA0A0, f % 4, f % 4, f / 4, f / 4);
+        }
+        return x;
+    }
+
+    private static void whatAFindHas() {
+        says("four digits of a NUMBER as they were read, each known or not; a CASTER; a NAME; months from .. to (0 .. 60); "
+            + "told at TIME (0 .. 999, it goes on only)");
+        Counted x = findsOfFour();
+        for (int f = 0; f < 16; f++) {
+            for (int c = 0; c < 4; c++) {
+                due("find " + f + " and cast " + c, x.weight(f, c), c == f % 4 ? HALVES[f / 4] : 0);
+            }
+            due("find " + f + " is sure", x.judge(f), 2);
+            due("find " + f + " has a best", x.best(f), f % 4);
+            due("find " + f + " can be one card", x.cards(f), 1);
+            due("find " + f + " has no twin", x.twin(f), NONE);
+            due("told at its time", x.got(f % 4, f % 4, 10 * f), f / 4 + 1);
+            due("letters of its name", x.letters(f % 4, 10 * f), f / 4 + 1);
+            if (f > 0) due("not told ahead of it", x.got(f % 4, f % 4, 10 * f - 1), f / 4);
+        }
+    }
+
+    private static void eachMayBeOut() {
+        says("each may be OUT");
+        Counted x = findsOfFour();
+        for (int f = 0; f < 16; f++) {
+            due("find " + f + " is not out", x.drop(f, 1), 0);
+            due("it alone is", x.count(7), 1);
+            for (int c = 0; c < 4; c++) {
+                due("find " + f + " is out, cast " + c, x.got(c, -1, 999), c == f % 4 ? 3 : 4);
+                due("find " + f + " is out, tongue " + c, x.letters(c, 999), c == f % 4 ? 3 : 4);
+            }
+            due("find " + f + " is out", x.drop(f, 0), 1);
+            due("none is", x.count(7), 0);
+        }
+        for (int f = 0; f < 16; f++) x.drop(f, 1);
+        due("all are", x.count(7), 16);
+        due("none is got", x.got(0, -1, 999) + x.got(1, -1, 999) + x.got(2, -1, 999) + x.got(3, -1, 999), 0);
+        due("the last is not", x.drop(15, 0), 1);
+        due("it is got", x.got(3, -1, 999), 1);
     }
 }

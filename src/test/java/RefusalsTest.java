@@ -168,7 +168,7 @@ public final class RefusalsTest extends Bounds {
     }
 
     private static void sea() {
-        says("of several the first one told: NONE there is no such CELL, REGION, month of the year, CAST, NAME, FIND, CASTER, TONGUE, "
+        says("REFUSALS, of several the first one told: NONE there is no such CELL, REGION, month of the year, CAST, NAME, FIND, CASTER, TONGUE, "
             + "what; BAD a number is not as told; STATE as told; FULL. They change nothing.");
         refused("paint: NONE of x0", NONE, x -> x.paint(-1, 9, 0, 3, 1));
         refused("paint: NONE of x1", NONE, x -> x.paint(0, 10, 0, 3, 1));

@@ -23,6 +23,12 @@ public final class SeaBoundsTest extends Bounds {
         paintWhenCast();
         cellRefuses();
         stormAndCalm();
+        currentOfEachRegion();
+        shiftOfEachRegion();
+        fromToInARow();
+        windAnswers();
+        stormAndCalmRefuse();
+        objectsAreApart();
         end();
     }
 
@@ -247,7 +253,7 @@ public final class SeaBoundsTest extends Bounds {
     }
 
     private static void currentCodes() {
-        says("east as 10 times (from and 3) and (to and 3), north likewise; from is not above to: 0.");
+        says("CURRENT: east as 10 times (from and 3) and (to and 3), north likewise; from is not above to: 0. NONE; BAD.");
         for (int v = -15; v <= 115; v++) {
             int from = v / 10;
             int to = v % 10;
@@ -372,7 +378,7 @@ public final class SeaBoundsTest extends Bounds {
     }
 
     private static void becameOther() {
-        says("becomes v: how many became other");
+        says("4 ICE (0 .. 4095) becomes v: how many became other.");
         for (int what = 0; what < 5; what++) {
             Counted x = new Counted();
             due("none: it is so", x.paint(0, 9, 2, what, 0), 0);
@@ -428,13 +434,126 @@ public final class SeaBoundsTest extends Bounds {
     }
 
     private static void stormAndCalm() {
-        says("A ROW for a month (0 .. 47): 1 if there was one, else 0.");
+        says("A ROW for a month (0 .. 47): 1 if there was one, else 0. NONE: month; BAD.");
         Counted x = new Counted();
         for (int month = 0; month < 48; month++) due("none in month " + month, x.storm(month, 0, 0), 0);
         for (int month = 0; month < 48; month++) due("one in month " + month, x.storm(month, 1, 0), 1);
-        says("There is no ROW for a month any more: 1 if there was one, else 0.");
+        says("There is no ROW for a month any more: 1 if there was one, else 0. NONE: month.");
         for (int month = 0; month < 48; month++) due("one in month " + month, x.calm(month), 1);
         for (int month = 0; month < 48; month++) due("none in month " + month, x.calm(month), 0);
         due("told again", x.storm(47, 3, -3), 0);
+    }
+
+    /** Row r is of region r. */
+    private static Counted threeRegions() {
+        Counted x = new Counted();
+        for (int r = 0; r < 3; r++) x.paint(0, 9, r, 1, r);
+        return x;
+    }
+
+    private static void currentOfEachRegion() {
+        says("Each REGION has for each month of the year a CURRENT: east, north, from .. to (-3 .. 3 each; 0 at first), "
+            + "and a SHIFT (-1 .. 1; 0 at first).");
+        for (int region = 0; region < 3; region++) {
+            for (int month = 0; month < 12; month++) {
+                Counted x = threeRegions();
+                x.current(region, month, 44, 33);
+                for (int r = 0; r < 3; r++) {
+                    x.cast(0, r, 1, 0, place(5, r), 0);
+                    String what = "region " + region + ", month " + month + ": region " + r;
+                    due(what + " ahead of it", x.partsAt(r, month, 5, r, 0), ALL);
+                    due(what + " behind it", x.partsAt(r, month + 1, r == region ? 6 : 5, r, 0), ALL);
+                    due(what + " at the end", x.partsAt(r, 12, r == region ? 6 : 5, r, 0), ALL);
+                }
+            }
+        }
+    }
+
+    private static void shiftOfEachRegion() {
+        says("and a SHIFT (-1 .. 1; 0 at first).");
+        for (int region = 0; region < 3; region++) {
+            for (int v = -1; v <= 1; v++) {
+                Counted x = threeRegions();
+                x.move(region, v);
+                for (int r = 0; r < 3; r++) {
+                    x.cast(0, r, 1, 10, place(5, r), 0);
+                    for (int months = 0; months <= 4; months++) {
+                        int to = r == region ? 5 + v * months : 5;
+                        due("region " + region + " by " + v + ": region " + r, x.partsAt(r, months, to, r, 0), ALL);
+                    }
+                }
+            }
+        }
+    }
+
+    private static void fromToInARow() {
+        says("CELLS x0 .. x1 of a row y: what 0 what they are (0 .. 2), 1 REGION (0 .. 2), 2 SAND, 3 WALKED (0 .. 16), 4 ICE (0 .. 4095) "
+            + "becomes v: how many became other.");
+        for (int x0 = 0; x0 < 10; x0++) {
+            for (int x1 = x0; x1 < 10; x1++) {
+                int row = (x0 + x1) % 6;
+                int what = x1 % 5;
+                Counted x = new Counted();
+                due(x0 + " .. " + x1, x.paint(x0, x1, row, what, MOST[what]), x1 - x0 + 1);
+                for (int i = 0; i < 60; i++) {
+                    boolean in = i % 6 == row && x0 <= i / 6 && i / 6 <= x1;
+                    due(x0 + " .. " + x1 + " of " + row + ": cell " + i, x.cell(i / 6, i % 6, what), in ? MOST[what] : 0);
+                }
+                for (int other = 0; other < 5; other++) {
+                    if (other != what) due("another what stays", x.cell(x0, row, other) + x.cell(x1, row, other), 0);
+                }
+            }
+        }
+    }
+
+    private static void windAnswers() {
+        says("WIND of a month of the year: 0. NONE; BAD.");
+        Counted x = new Counted();
+        for (int month = 0; month < 12; month++) {
+            due("told", x.wind(month, 1, -1), 0);
+            due("told again", x.wind(month, 1, -1), 0);
+            due("another", x.wind(month, 0, 1), 0);
+            due("BAD", x.wind(month, 4, 1), BAD);
+            due("BAD", x.wind(month, 1, 4), BAD);
+        }
+        due("NONE", x.wind(12, 1, 1), NONE);
+        due("NONE ahead of BAD", x.wind(-1, 4, 4), NONE);
+        x.cast(1, 0, 1, 30, place(4, 0), 0);
+        for (int months = 0; months <= 5; months++) {
+            due("the one told last, in month " + (30 + months), x.partsAt(0, months, 4, months, 0), ALL);
+        }
+    }
+
+    private static void stormAndCalmRefuse() {
+        says("NONE: month; BAD.");
+        Counted x = new Counted();
+        int[] not = {-1, 48, LOW, HIGH};
+        for (int month : not) {
+            due("storm in " + month, x.storm(month, 0, 0), NONE);
+            due("storm in " + month + ", NONE ahead of BAD", x.storm(month, 4, -4), NONE);
+            due("calm in " + month, x.calm(month), NONE);
+        }
+        due("a storm", x.storm(47, 1, 0), 0);
+        due("BAD", x.storm(47, -4, 0), BAD);
+        due("BAD", x.storm(47, 0, 4), BAD);
+        x.cast(1, 0, 1, 47, place(4, 0), 0);
+        due("it is as it was told", x.partsAt(0, 1, 5, 0, 0), ALL);
+        due("it is there", x.calm(47), 1);
+    }
+
+    private static void objectsAreApart() {
+        says("All WATER of REGION 0, no CURRENTS, no WIND, nothing cast, TIME 0.");
+        Counted full = States.full();
+        long missed = full.misses();
+        Counted x = new Counted();
+        for (int what = 0; what < 8; what++) due("new beside a full one, count " + what, x.count(what), 0);
+        for (int i = 0; i < 60; i++) due("new beside a full one, cell " + i, x.cell(i / 6, i % 6, 0) + x.cell(i / 6, i % 6, 3), 0);
+        due("nothing is missed", x.misses(), 0);
+        due("no shift", x.move(0, -1), 0);
+        x.cast(3, 0, 1, 0, place(5, 3), 0);
+        due("no wind", x.partsAt(0, 1, 4, 3, 0), ALL);
+        due("a full one stays as it was", full.misses(), missed);
+        due("and its time", full.count(4), 999);
+        due("and its shift", full.move(0, 1), 1);
     }
 }

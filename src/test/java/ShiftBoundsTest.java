@@ -19,6 +19,10 @@ public final class ShiftBoundsTest extends Bounds {
         tellsIsCut();
         tellsInTwelveMonths();
         tellsOfOneRegion();
+        missedOfEachCastAndName();
+        missedWithShifts();
+        doubtByDropping();
+        tellsByCasting();
         end();
     }
 
@@ -78,7 +82,7 @@ public final class ShiftBoundsTest extends Bounds {
     }
 
     private static void fitOfEachShift() {
-        says("of all SHIFTS of the three REGIONS (REGION 0's from -1 on, then 1's, 2's) the ones with the least MISSED");
+        says("FIT: of all SHIFTS of the three REGIONS (REGION 0's from -1 on, then 1's, 2's) the ones with the least MISSED");
         for (int all = 0; all < 27; all++) {
             int[] shifts = {all / 9 - 1, all / 3 % 3 - 1, all % 3 - 1};
             Counted x = threeCards(shifts);
@@ -187,7 +191,7 @@ public final class ShiftBoundsTest extends Bounds {
     }
 
     private static void missedInTwelveMonths() {
-        says("PARTS of its DRIFT FOUND in CELLS of the NAME (in its 12 months)");
+        says("MISSED: for each CAST and NAME: PARTS of its DRIFT FOUND in CELLS of the NAME (in its 12 months)");
         Counted x = new Counted();
         shore(x, 6, 2, 16, 0);
         x.storm(30, 1, 0);
@@ -435,5 +439,142 @@ public final class ShiftBoundsTest extends Bounds {
             two.move(1, told);
             due("lands if both together are 1, the other told as " + told, two.tells(0, 0, place(4, 0), 0), told == -1 ? 0 : 100000);
         }
+    }
+
+    /** Cast 0 lands at (9, 0), where all is found; cast 1 at (9, 1), where in 12 months 999755 of its parts are found. */
+    private static void missedOfEachCastAndName() {
+        says("MISSED: for each CAST and NAME: PARTS of its DRIFT FOUND in CELLS of the NAME (in its 12 months), "
+            + "times its CARDS, by 1000, cut, less 1000 times what it GOT there (as of 999); squares of that, together.");
+        Counted x = new Counted();
+        shore(x, 9, 0, 16, 0);
+        shore(x, 9, 1, 8, 0);
+        currentAllYear(x, 44, 33);
+        x.cast(0, 100, 100, 0, place(8, 0), 0);
+        x.cast(0, 200, 30, 0, place(8, 1), 0);
+        due("no names", x.misses(), 0);
+        x.name(909, 0, 0);
+        due("cast 0 alone is found there", x.misses(), 100000L * 100000);
+        x.name(909, 101, 0);
+        due("cast 1 in the other", x.misses(), 100000L * 100000 + 29992L * 29992);
+        x.name(9, 5, 0);
+        due("both in all", x.misses(), 2 * (100000L * 100000 + 29992L * 29992));
+        x.find(0x0100, 0, 0, 0, 60);
+        x.find(0x0101, 0, 0, 0, 60);
+        x.find(0x0102, 0, 2, 0, 60);
+        for (int f = 0; f < 3; f++) x.find(0x0200 + f, 0, 1, 0, 60);
+        due("what each got in each is less", x.misses(), 98000L * 98000 + 99000L * 99000 + 26992L * 26992 + 29992L * 29992);
+        x.find(0x0103, 0, 1, 0, 60);
+        due("a fake is not got", x.misses(), 98000L * 98000 + 99000L * 99000 + 26992L * 26992 + 29992L * 29992);
+        for (int f = 0; f < 9; f++) x.find(0x0210 + f, 0, 2, 0, 60);
+        due("nine in all", x.misses(), 98000L * 98000 + 99000L * 99000 + 26992L * 26992 + 20992L * 20992);
+    }
+
+    /**
+     * Three casts, one of each region, in a sea with shores at both ends. Each is sure to land somewhere with all shifts, so
+     * who is sure does not hang on the shifts that are told, and those can be told one after the other.
+     */
+    private static Counted between(int way) {
+        Counted x = new Counted();
+        for (int y = 0; y < 6; y++) {
+            x.paint(0, 9, y, 1, y / 2);
+            shore(x, 9, y, 4 + (y + way) % 12, y % 3);
+            shore(x, 0, y, 15 - (y * way) % 12, y % 2);
+        }
+        for (int month = 0; month < 12; month++) {
+            x.current(0, month, (month + way) % 2 == 0 ? 25 : 14, 33);
+            x.current(1, month, way % 3 == 0 ? 14 : 25, (month + way) % 3 == 0 ? 34 : 23);
+            x.current(2, month, way % 2 == 0 ? 35 : 13, month % 4 == way % 4 ? 22 : 33);
+        }
+        for (int c = 0; c < 3; c++) x.cast(0, 100 * c, 2 + (way + c) % 4, way, place(3 + (way + c) % 4, 2 * c), 0);
+        x.name(9, 5, 0);
+        if (way % 3 > 0) x.name(909, 5, 0);
+        for (int f = 0; f < 7; f++) {
+            int c = (f * (way / 3 + 1) + way) % 3;
+            x.find(0xA000 | c << 8 | f % 2, 0, 0, 0, 60);
+            if ((f + way) % 3 == 0) x.find(0x9000 | c << 8, 0, 0, 0, 60);
+        }
+        return x;
+    }
+
+    private static void missedWithShifts() {
+        says("MISSED with the SHIFTS of FIT.");
+        says("MISSED with the SHIFTS that are told.");
+        says("the ones with the least MISSED, the first of several");
+        int turned = 0;
+        for (int way = 0; way < 24; way++) {
+            Counted x = between(way);
+            int finds = x.count(2);
+            int[] verdict = new int[finds];
+            for (int f = 0; f < finds; f++) verdict[f] = x.judge(f);
+            long least = x.misfit();
+            int[] fit = {x.fit(0), x.fit(1), x.fit(2)};
+            int first = -1;
+            for (int all = 0; all < 27; all++) {
+                x.move(0, all / 9 - 1);
+                x.move(1, all / 3 % 3 - 1);
+                x.move(2, all % 3 - 1);
+                for (int f = 0; f < finds; f++) {
+                    if (all % 13 == 0) due("who is sure stays, find " + f, x.judge(f), verdict[f]);
+                }
+                long missed = x.misses();
+                due("way " + way + ", shifts " + all + ": not less than the least", missed < least ? 1 : 0, 0);
+                if (missed == least && first < 0) first = all;
+                due("way " + way + ": it hangs on no shifts told", x.misfit(), least);
+            }
+            due("way " + way + ": with those of fit it is the least", first, 9 * (fit[0] + 1) + 3 * (fit[1] + 1) + fit[2] + 1);
+            if (first != 0) turned++;
+        }
+        due("not all fit with the first of all shifts", turned > 12 ? 1 : 0, 1);
+    }
+
+    private static void doubtByDropping() {
+        says("DOUBT of a REGION: the latest 3 FINDS, at most, that are SURE (not OUT, no TWINS): "
+            + "how many of them, each left out alone (it is not GOT then), turn FIT of that REGION.");
+        int all = 0;
+        for (int way = 0; way < 24; way++) {
+            Counted x = between(way);
+            int[] turns = new int[3];
+            int[] fit = {x.fit(0), x.fit(1), x.fit(2)};
+            int seen = 0;
+            for (int f = x.count(2) - 1; f >= 0 && seen < 3; f--) {
+                if (x.judge(f) != 2) continue;
+                seen++;
+                x.drop(f, 1);
+                for (int r = 0; r < 3; r++) if (x.fit(r) != fit[r]) turns[r]++;
+                x.drop(f, 0);
+            }
+            for (int r = 0; r < 3; r++) due("way " + way + ", region " + r, x.doubt(r), turns[r]);
+            all += turns[0] + turns[1] + turns[2];
+        }
+        due("some are turned", all > 12 ? 1 : 0, 1);
+    }
+
+    private static void tellsByCasting() {
+        says("TELLS: a CAST of a KIND (0, 1, 3) in a month and CELL of WATER, by a REGION: for its SHIFT 0 and 1 (others as told): "
+            + "in each CELL how far PARTS FOUND there (12 months) are off from those with SHIFT -1, without sign, by 10, cut; together.");
+        int[] kinds = {0, 1, 3};
+        int some = 0;
+        for (int way = 0; way < 27; way++) {
+            Counted x = between(way);
+            int region = way % 3;
+            int kind = kinds[way / 3 % 3];
+            int at = place(3 + way % 5, way % 6);
+            for (int month = 0; month < 12; month++) x.wind(month, month % 3 - 1, (month + way) % 3 - 1);
+            for (int r = 0; r < 3; r++) x.move(r, (way + r) % 3 - 1);
+            int told = x.tells(kind, 40, at, region);
+            int c = x.cast(kind, 5000, 1, 40, at, 0);
+            int sum = 0;
+            int[][] found = new int[3][12];
+            for (int shift = 0; shift < 3; shift++) {
+                x.move(region, shift - 1);
+                for (int i = 0; i < 12; i++) {
+                    found[shift][i] = x.partsAt(c, 12, i < 6 ? 0 : 9, i % 6, 2);
+                    if (shift > 0) sum += Math.abs(found[shift][i] - found[0][i]) / 10;
+                }
+            }
+            due("way " + way, told, sum);
+            if (told > 0) some++;
+        }
+        due("most tell something", some > 20 ? 1 : 0, 1);
     }
 }
